@@ -135,7 +135,7 @@ public final class InspectSteps {
             return false;
         }
         Inspection givenUp = inspections.get(inspection);
-        if (!givenUp.isPending() || givenUp.state == BEGUN) {
+        if (!givenUp.canBeGivenUp()) {
             return false;
         }
         givenUp.state = GIVEN_UP;
@@ -291,7 +291,7 @@ public final class InspectSteps {
             case 0: return inspections.size();
             case 1: return samples.size();
             case 2: return now;
-            default: return what < DECLARATIONS ? NONE : countOf(what % DECLARATIONS, what / DECLARATIONS);
+            default: return what < 10 ? NONE : countOf(what % 10, what / 10);
         }
     }
 
@@ -453,7 +453,7 @@ public final class InspectSteps {
             return kind >= FIRST_OPENING_KIND;
         }
 
-        /** One that is neither done nor given up can be late, and keeps its declaration from release. */
+        /** Only what is done or given up is late no more, and no reason against release. */
         boolean isPending() {
             return state != DONE && state != GIVEN_UP;
         }
@@ -464,6 +464,10 @@ public final class InspectSteps {
 
         boolean canBeBegunAt(int time) {
             return state == PLANNED && from <= time && time <= to;
+        }
+
+        boolean canBeGivenUp() {
+            return state == ASKED || state == PLANNED || state == FAILED;
         }
 
         boolean hasAppointment() {
