@@ -39,7 +39,7 @@ final class Check {
         try {
             run.run();
         } catch (RuntimeException got) {
-            if (got.getClass() != want) {
+            if (got.getClass() != want || !isThrownByTheClass(got)) {
                 wrong++;
                 System.out.println(call + " threw " + got + ", due is " + want.getSimpleName());
             }
@@ -47,6 +47,12 @@ final class Check {
         }
         wrong++;
         System.out.println(call + " threw nothing, due is " + want.getSimpleName());
+    }
+
+    /** An exception out of a list of the library has the right class, but nobody threw it. */
+    private static boolean isThrownByTheClass(RuntimeException got) {
+        StackTraceElement[] trace = got.getStackTrace();
+        return trace.length > 0 && trace[0].getClassName().equals("InspectSteps");
     }
 
     static void finish() {

@@ -8,8 +8,8 @@ public final class HoldTest {
     }
 
     private static void heldAndNot() {
-        InspectSteps x = new InspectSteps();
         for (int d = 0; d < 10; d++) {
+            InspectSteps x = new InspectSteps();
             for (int office = 0; office < 8; office++) {
                 Check.no("not held yet", x.hold(d, office, false));
                 Check.yes("held", x.hold(d, office, true));

@@ -4,6 +4,8 @@ public final class InspectionTest {
         numbers();
         refused();
         dueFromNowOn();
+        dueAtTheEndOfTime();
+        everyDeclarationAndKind();
         thirty();
         Check.finish();
     }
@@ -58,5 +60,25 @@ public final class InspectionTest {
         }
         Check.full("given up ones count too", () -> x.inspection(0, 0, 5));
         Check.due("inspections", 30, x.count(0));
+    }
+
+    private static void dueAtTheEndOfTime() {
+        InspectSteps x = new InspectSteps();
+        x.tick(100000);
+        Check.bad("before NOW", () -> x.inspection(0, 0, 99999));
+        Check.bad("behind the last time", () -> x.inspection(0, 0, 100001));
+        Check.due("at the last time", 0, x.inspection(0, 0, 100000));
+    }
+
+    private static void everyDeclarationAndKind() {
+        for (int kind = 0; kind < 5; kind++) {
+            InspectSteps x = new InspectSteps();
+            for (int d = 0; d < 10; d++) {
+                Check.due("number", d, x.inspection(d, kind, 5));
+                Check.due("declaration", d, x.look(d, 0));
+                Check.due("kind", kind, x.look(d, 1));
+                Check.due("release", 1, x.release(d));
+            }
+        }
     }
 }

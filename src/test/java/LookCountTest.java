@@ -3,6 +3,7 @@ public final class LookCountTest {
     public static void main(String[] args) {
         lookThroughSteps();
         lookOutside();
+        lookAtThirty();
         countOutside();
         countOfDeclarations();
         costs();
@@ -111,5 +112,20 @@ public final class LookCountTest {
             Check.due("given up", 300 * (kind + 1), x.count(36));
             Check.due("another declaration", 0, x.count(30));
         }
+    }
+
+    private static void lookAtThirty() {
+        InspectSteps x = new InspectSteps();
+        for (int i = 0; i < 30; i++) {
+            x.inspection(i % 10, i % 5, 5);
+        }
+        for (int i = 0; i < 30; i++) {
+            Check.due("declaration", i % 10, x.look(i, 0));
+            Check.due("kind", i % 5, x.look(i, 1));
+            Check.due("samples", 0, x.look(i, 8));
+        }
+        Check.outside("the 31st", () -> x.look(30, 0));
+        Check.outside("no such what of the 30th", () -> x.look(29, 9));
+        Check.outside("neither", () -> x.look(30, -1));
     }
 }

@@ -4,8 +4,10 @@ public final class PlanTest {
         planned();
         refused();
         timesFromNowOn();
+        atTheEndOfTime();
         spans();
         whoKeepsAPlace();
+        refusedTakesNoPlace();
         states();
         Check.finish();
     }
@@ -114,5 +116,31 @@ public final class PlanTest {
         x.inspection(0, 0, 50);
         x.giveUp(1);
         Check.due("given up", 0, x.plan(1, 1, 40, 50));
+    }
+
+    private static void atTheEndOfTime() {
+        InspectSteps x = new InspectSteps();
+        x.inspection(0, 0, 5);
+        x.inspection(0, 0, 5);
+        x.tick(99999);
+        Check.due("the last span", 1, x.plan(0, 0, 99999, 100000));
+        x.tick(100000);
+        Check.bad("from before NOW", () -> x.plan(1, 1, 99999, 100000));
+        Check.bad("no span is left", () -> x.plan(1, 1, 100000, 100000));
+        Check.bad("to behind the last time", () -> x.plan(1, 1, 100000, 100001));
+    }
+
+    private static void refusedTakesNoPlace() {
+        InspectSteps x = new InspectSteps();
+        for (int i = 0; i < 3; i++) {
+            x.inspection(0, 0, 5);
+        }
+        x.plan(0, 0, 10, 20);
+        Check.due("planned already", 0, x.plan(0, 1, 10, 20));
+        Check.bad("not in order", () -> x.plan(2, 1, 20, 10));
+        Check.due("the place is free", 1, x.plan(1, 1, 10, 20));
+        Check.due("taken", 0, x.plan(2, 1, 10, 20));
+        Check.due("still asked", 0, x.look(2, 2));
+        Check.due("the first one's place is still its own", 0, x.plan(2, 0, 19, 21));
     }
 }

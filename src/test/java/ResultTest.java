@@ -3,12 +3,15 @@ public final class ResultTest {
     public static void main(String[] args) {
         refused();
         sealsOfOthers();
+        argumentsBeforeRefusals();
         onceForEachMeasure();
+        toldBehindTheInspection();
         edgesOfTolerances();
         largest();
         declaredOf();
         declaredLater();
         declaredRefused();
+        everyDeclarationAndMeasure();
         toleranceLater();
         toleranceRefused();
         Check.finish();
@@ -175,5 +178,50 @@ public final class ResultTest {
         Check.due("and down", 0, Scene.sampledAnd(x, 102, 0, 99));
         Check.yes("the largest", x.tolerance(3, 1000, 1000));
         Check.yes("the least", x.tolerance(3, 0, 0));
+    }
+
+    private static void argumentsBeforeRefusals() {
+        InspectSteps x = Scene.sampled(2);
+        Check.bad("another's seal, no value", () -> x.result(0, 102, 0, 1000001));
+        Check.bad("another's seal, no measure", () -> x.result(0, 102, 4, 5));
+        Check.bad("nobody's seal, no value", () -> x.result(0, 103, 0, -1));
+        Check.bad("a sample's seal, no such sample", () -> x.result(2, 102, 0, 5));
+        x.result(0, 101, 0, 5);
+        Check.bad("told, no seal", () -> x.result(0, 0, 0, 5));
+        Check.bad("told, no value", () -> x.result(0, 101, 0, 1000001));
+    }
+
+    /** A result may be told whatever has become of the inspection. */
+    private static void toldBehindTheInspection() {
+        for (int fate = 0; fate < 4; fate++) {
+            InspectSteps x = Scene.sampled(1);
+            x.declared(0, 0, 10);
+            x.end(0, 0, fate == 0);
+            if (fate == 2) {
+                x.plan(0, 0, 0, 5);
+            } else if (fate == 3) {
+                x.giveUp(0);
+            }
+            x.tick(100000);
+            Check.due("fate " + fate, 2, x.result(0, 101, 0, 11));
+            Check.due("counted", 1, x.count(40));
+        }
+    }
+
+    private static void everyDeclarationAndMeasure() {
+        InspectSteps x = new InspectSteps();
+        for (int d = 0; d < 10; d++) {
+            for (int m = 0; m < 4; m++) {
+                Check.yes("the least", x.declared(d, m, 0));
+                Check.yes("the largest", x.declared(d, m, 1000000));
+                Check.no("less", x.declared(d, m, -1));
+                Check.no("more", x.declared(d, m, 1000001));
+            }
+        }
+        InspectSteps y = Scene.sampled(1);
+        y.result(0, 101, 0, 50);
+        Check.no("refused", y.declared(0, 0, -1));
+        Check.no("refused", y.declared(0, 0, 1000001));
+        Check.due("so nothing is declared still", 0, y.count(40));
     }
 }

@@ -4,8 +4,10 @@ public final class SampleTest {
         taken();
         refused();
         kindsAndStates();
+        begunAgain();
         sealsOnce();
         forty();
+        argumentsBeforeRefusals();
         Check.finish();
     }
 
@@ -78,5 +80,28 @@ public final class SampleTest {
         Check.due("samples", 40, x.count(1));
         Check.due("of the inspection", 40, x.look(0, 8));
         Check.due("costs", 400 + 40 * 50, x.count(30));
+    }
+
+    private static void begunAgain() {
+        InspectSteps x = Scene.sampled(2);
+        x.end(0, 0, false);
+        Check.due("failed", -1, x.sample(0, 5));
+        x.plan(0, 0, 0, 5);
+        Check.due("planned again", -1, x.sample(0, 5));
+        x.begin(0, 1);
+        Check.due("begun again", 2, x.sample(0, 5));
+        Check.due("with those of the first time", 3, x.look(0, 8));
+        Check.due("whose seals are still used", -1, x.sample(0, 101));
+        x.end(0, 1, true);
+        Check.due("done", -1, x.sample(0, 6));
+    }
+
+    private static void argumentsBeforeRefusals() {
+        InspectSteps x = Scene.allRights();
+        Check.bad("no inspection yet", () -> x.sample(0, 5));
+        x.inspection(0, 0, 5);
+        Check.bad("of papers, seal 0", () -> x.sample(0, 0));
+        Check.bad("of papers, seal 1000001", () -> x.sample(0, 1000001));
+        Check.due("of papers", -1, x.sample(0, 5));
     }
 }

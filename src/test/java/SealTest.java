@@ -6,6 +6,8 @@ public final class SealTest {
         whole();
         somethingBegun();
         byRights();
+        everyPair();
+        argumentsBeforeRefusals();
         Check.finish();
     }
 
@@ -93,5 +95,35 @@ public final class SealTest {
             x.right(2, kind, false);
         }
         Check.due("both may", 1, x.seal(0, 7, 1, 2));
+    }
+
+    private static void everyPair() {
+        for (int first = 0; first < 10; first++) {
+            for (int second = 0; second < 10; second++) {
+                int one = first;
+                int other = second;
+                InspectSteps x = broken();
+                if (first == second) {
+                    Check.bad(first + " alone", () -> x.seal(0, 7, one, other));
+                } else {
+                    Check.due(first + " and " + second, 1, x.seal(0, 7, one, other));
+                }
+            }
+        }
+    }
+
+    private static void argumentsBeforeRefusals() {
+        InspectSteps x = new InspectSteps();
+        Check.due("whole, and they may not", 0, x.seal(0, 1, 0, 1));
+        Check.bad("no number", () -> x.seal(0, 0, 0, 1));
+        Check.bad("no number", () -> x.seal(0, 1000001, 0, 1));
+        Check.bad("no first", () -> x.seal(0, 1, -1, 1));
+        Check.bad("no second", () -> x.seal(0, 1, 0, 10));
+        Check.bad("neither, and the same", () -> x.seal(0, 1, 10, 10));
+        Check.bad("one alone", () -> x.seal(0, 1, 0, 0));
+        Check.bad("no declaration", () -> x.seal(10, 1, 0, 1));
+        InspectSteps y = Scene.opened();
+        Check.bad("begun, one alone", () -> y.seal(0, 1, 3, 3));
+        Check.bad("begun, no number", () -> y.seal(0, 0, 1, 2));
     }
 }

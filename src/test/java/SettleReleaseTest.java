@@ -6,6 +6,7 @@ public final class SettleReleaseTest {
         settledHoweverTheyDiffer();
         settledOnlyWhatWasTold();
         settledByDeclaration();
+        settledInAllInspections();
         releaseByStates();
         releaseInOrder();
         releaseBySamples();
@@ -140,5 +141,20 @@ public final class SettleReleaseTest {
         Check.due("that is no reason", 0, x.release(0));
         x.tolerance(3, 0, 10);
         Check.due("by 2 it is", 5, x.release(0));
+    }
+
+    private static void settledInAllInspections() {
+        InspectSteps x = Scene.sampled(1);
+        Scene.begun(x, 0, 4, 1);
+        x.sample(1, 200);
+        for (int m = 0; m < 4; m++) {
+            x.declared(0, m, 10);
+            x.result(0, 101, m, 90);
+            x.result(1, 200, m, 90);
+        }
+        Check.due("differ by 2", 8, x.count(40));
+        Check.due("of both inspections", 8, x.settle(0));
+        Check.due("they differ still", 8, x.count(40));
+        Check.due("none is left", 0, x.settle(0));
     }
 }

@@ -4,12 +4,15 @@ public final class StepsTest {
         beginRefusesWhatIsNone();
         beginInItsTime();
         beginByRight();
+        rightsAsTheyAreNow();
         beginInItsState();
         beginBreaksSeals();
+        beginRefusedChangesNothing();
         endRefusesWhatIsNone();
         endByTheSame();
         endInItsState();
         giveUpByState();
+        argumentsBeforeStates();
         Check.finish();
     }
 
@@ -171,5 +174,55 @@ public final class StepsTest {
         Check.yes("failed", x.giveUp(3));
         Check.due("state", 5, x.look(3, 2));
         Check.due("the other one is still asked", 0, x.look(4, 2));
+    }
+
+    private static void rightsAsTheyAreNow() {
+        InspectSteps x = Scene.allRights();
+        x.inspection(0, 0, 5);
+        x.plan(0, 0, 0, 5);
+        x.right(4, 0, false);
+        Check.due("not any more", 0, x.begin(0, 4));
+        x.right(4, 0, true);
+        Check.due("again", 1, x.begin(0, 4));
+        Check.due("a person may do several", 1, x.begin(plannedAt(x, 1), 4));
+        Check.due("at all places", 1, x.begin(plannedAt(x, 2), 4));
+    }
+
+    private static int plannedAt(InspectSteps x, int place) {
+        int inspection = x.inspection(0, 0, 5);
+        x.plan(inspection, place, 0, 5);
+        return inspection;
+    }
+
+    private static void beginRefusedChangesNothing() {
+        InspectSteps x = Scene.allRights();
+        x.right(1, 4, false);
+        x.inspection(0, 4, 50);
+        Check.due("asked", 0, x.begin(0, 0));
+        x.plan(0, 0, 10, 20);
+        Check.due("too early", 0, x.begin(0, 0));
+        x.tick(20);
+        Check.due("without the right", 0, x.begin(0, 1));
+        Check.bad("no person", () -> x.begin(0, 10));
+        x.tick(21);
+        Check.due("too late", 0, x.begin(0, 0));
+        Check.due("the seal is whole", 0, x.count(10));
+        Check.due("costs", 0, x.count(30));
+        Check.due("state", 1, x.look(0, 2));
+        Check.due("person", -1, x.look(0, 7));
+        Check.due("its place is kept", 0, x.look(0, 4));
+        Check.yes("it can only be given up", x.giveUp(0));
+    }
+
+    /** What is no person throws where the state alone would be refused. */
+    private static void argumentsBeforeStates() {
+        InspectSteps x = Scene.allRights();
+        x.inspection(0, 0, 5);
+        Check.bad("begin, asked", () -> x.begin(0, 10));
+        Check.bad("end, asked", () -> x.end(0, -1, true));
+        x.giveUp(0);
+        Check.bad("begin, given up", () -> x.begin(0, -1));
+        Check.bad("end, given up", () -> x.end(0, 10, false));
+        Check.bad("plan, given up, no place", () -> x.plan(0, 4, 0, 5));
     }
 }

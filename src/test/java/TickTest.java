@@ -5,6 +5,9 @@ public final class TickTest {
         levels();
         byStates();
         severalInspections();
+        asNowGoesOn();
+        endedJustInTime();
+        refusedPassesNothing();
         stepByStep();
         Check.finish();
     }
@@ -98,7 +101,7 @@ public final class TickTest {
             for (int i = 0; i < dues.length; i++) {
                 x.inspection(0, 0, dues[i]);
             }
-            for (int now = 0; now + step <= 800; now += step) {
+            for (int now = 0; now + step <= Math.min(800, 400 * step); now += step) {
                 int passed = 0;
                 for (int t = now + 1; t <= now + step; t++) {
                     for (int i = 0; i < dues.length; i++) {
@@ -114,5 +117,59 @@ public final class TickTest {
                 Check.due("level", levels[i], x.look(i, 3));
             }
         }
+    }
+
+    /** Asked for when it is late already in the day: only times behind NOW count. */
+    private static void asNowGoesOn() {
+        InspectSteps x = new InspectSteps();
+        x.tick(500);
+        x.inspection(0, 0, 500);
+        Check.due("it is due NOW", 0, x.tick(500));
+        Check.due("and late next", 1, x.tick(501));
+        Check.due("not again yet", 0, x.tick(600));
+        Check.due("a hundred behind", 1, x.tick(601));
+        InspectSteps last = new InspectSteps();
+        last.tick(99999);
+        last.inspection(0, 0, 99999);
+        last.inspection(0, 0, 100000);
+        Check.due("at the end of time the first is late", 1, last.tick(100000));
+        Check.due("level", 1, last.look(0, 3));
+        Check.due("and the second is not", 0, last.look(1, 3));
+    }
+
+    /** What counts is the state at the very time that it would pass up. */
+    private static void endedJustInTime() {
+        for (int late = 0; late < 3; late++) {
+            int time = 40 + 100 * late;
+            InspectSteps x = Scene.allRights();
+            for (int place = 0; place < 4; place++) {
+                x.inspection(0, 0, 40);
+                x.plan(place, place, 0, 1000);
+                x.begin(place, 0);
+            }
+            Check.due("before", 4 * late, x.tick(time));
+            x.end(0, 0, true);
+            x.end(1, 0, false);
+            x.giveUp(1);
+            x.end(2, 0, false);
+            Check.due("failed and begun pass up", 2, x.tick(time + 1));
+            x.end(2, 0, true);
+            x.end(3, 0, true);
+            int[] want = {late, late, late + 1, late + 1};
+            for (int i = 0; i < 4; i++) {
+                Check.due("level of " + i, want[i], x.look(i, 3));
+            }
+        }
+    }
+
+    private static void refusedPassesNothing() {
+        InspectSteps x = new InspectSteps();
+        x.inspection(0, 0, 0);
+        for (int wrong : new int[] {-1, 100001, Scene.LOW, Scene.HIGH}) {
+            Check.bad("tick " + wrong, () -> x.tick(wrong));
+        }
+        Check.due("level", 0, x.look(0, 3));
+        Check.due("NOW", 0, x.count(2));
+        Check.due("all of it later", 3, x.tick(201));
     }
 }
